@@ -44,7 +44,7 @@ public final class DripEars {
     private final boolean[] isKept = new boolean[SLOTS];
     private long seedNow;
     private final int[] doings = new int[3 * MOST_DOINGS];
-    private final int[] mostLowerings = new int[MOST_HOUSES];
+    private final int[] lowerings = new int[MOST_HOUSES];
     private final int[] oneHas = new int[4];
     private final int[] otherHas = new int[4];
 
@@ -233,11 +233,10 @@ public final class DripEars {
         if (n < 1 || n > MOST_KEEPS_HOURS || !isZeroOrOne(what)) {
             return OUTSIDE;
         }
-        int way = fewestLowerings(house, thing, n);
-        if (way == NONE) {
+        if (!fillFewestLowerings(house, thing, n)) {
             return NONE;
         }
-        return what == 0 ? sumOfLowerings(way) : figuresOfLowerings(way);
+        return what == 0 ? sumOfLowerings() : figuresOfLowerings();
     }
 
     public int tells(int things, int what) {
@@ -477,67 +476,47 @@ public final class DripEars {
         return power;
     }
 
-    /** A way has two bits a house, the first house uppermost, so that the least way has the least figures. */
-    private int loweringsOf(int way, int house) {
-        return (way >> (2 * (told.houses - 1 - house))) & 3;
-    }
-
-    private int sumOfLowerings(int way) {
+    private int sumOfLowerings() {
         int sum = 0;
         for (int house = 0; house < told.houses; house++) {
-            sum += loweringsOf(way, house);
+            sum += lowerings[house];
         }
         return sum;
     }
 
-    private int figuresOfLowerings(int way) {
+    private int figuresOfLowerings() {
         int figures = 0;
         for (int house = 0; house < told.houses; house++) {
-            figures = 10 * figures + loweringsOf(way, house);
+            figures = 10 * figures + lowerings[house];
         }
         return figures;
     }
 
-    private int fewestLowerings(int house, int thing, int n) {
-        int lowest = fillMostLowerings(thing);
-        // Lower voices are never heard by more, so what the lowest do not keep is not kept at all.
-        if (!isKeptFrom(lowest, house, thing, n)) {
-            return NONE;
+    /**
+     * Whether a saying is heard hangs on the voice of its own house alone, and a lower voice is never heard by more.
+     * So what the lowest voices do not keep is not kept at all, and each house has a least lowering of its own.
+     */
+    private boolean fillFewestLowerings(int house, int thing, int n) {
+        for (int each = 0; each < told.houses; each++) {
+            lowerings[each] = Math.min(MOST_LOWERINGS, now.voice[each] - LOWEST_VOICE);
         }
-        int best = lowest;
-        for (int way = 0; way < lowest; way++) {
-            boolean fewer = canLowerSo(way) && sumOfLowerings(way) < sumOfLowerings(best);
-            if (fewer && isKeptFrom(way, house, thing, n)) {
-                best = way;
-            }
+        if (!isKeptFrom(house, thing, n)) {
+            return false;
         }
-        return best;
-    }
-
-    /** Houses in which the thing is never said are left out: no fewest way lowers them. Answers the lowest way. */
-    private int fillMostLowerings(int thing) {
-        int lowest = 0;
-        for (int house = 0; house < told.houses; house++) {
-            int down = now.voice[house] - LOWEST_VOICE;
-            mostLowerings[house] = told.isSaidIn(house, thing) ? Math.min(MOST_LOWERINGS, down) : 0;
-            lowest = 4 * lowest + mostLowerings[house];
-        }
-        return lowest;
-    }
-
-    private boolean canLowerSo(int way) {
-        for (int house = 0; house < told.houses; house++) {
-            if (loweringsOf(way, house) > mostLowerings[house]) {
-                return false;
+        for (int each = 0; each < told.houses; each++) {
+            int most = lowerings[each];
+            lowerings[each] = 0;
+            while (lowerings[each] < most && !isKeptFrom(house, thing, n)) {
+                lowerings[each]++;
             }
         }
         return true;
     }
 
-    private boolean isKeptFrom(int way, int house, int thing, int n) {
+    private boolean isKeptFrom(int house, int thing, int n) {
         trial.take(now);
-        for (int lowered = 0; lowered < told.houses; lowered++) {
-            trial.voice[lowered] -= loweringsOf(way, lowered);
+        for (int each = 0; each < told.houses; each++) {
+            trial.voice[each] -= lowerings[each];
         }
         trial.passHours(n);
         return !trial.knowsThing(house, thing);
@@ -680,15 +659,6 @@ public final class DripEars {
 
         int rainAt(int hour) {
             return rains > 0 ? rain[hour % rains] : 0;
-        }
-
-        boolean isSaidIn(int number, int what) {
-            for (int i = 0; i < sayings; i++) {
-                if (place[i] == number && thing[i] == what) {
-                    return true;
-                }
-            }
-            return false;
         }
 
         void addHouse(int newKind, int newWall) {

@@ -60,6 +60,10 @@ public final class DripEarsAgainstModel {
     }
 
     private String drawnLane() {
+        return random.nextBoolean() ? subtleLane() : anyLane();
+    }
+
+    private String anyLane() {
         StringBuilder text = new StringBuilder("E");
         int houses = random.nextInt(6);
         for (int i = 0; i < houses; i++) {
@@ -74,6 +78,28 @@ public final class DripEarsAgainstModel {
         int most = 1 + random.nextInt(10);
         for (int i = 0; i < rains; i++) {
             text.append('R').append(random.nextBoolean() ? 0 : random.nextInt(most));
+        }
+        return text.toString();
+    }
+
+    /** Nobody strays and sayings are hardly loud enough, so that each hearer knows other things. */
+    private String subtleLane() {
+        StringBuilder text = new StringBuilder("E");
+        int houses = 3 + random.nextInt(3);
+        int[] walls = new int[houses];
+        for (int i = 0; i < houses; i++) {
+            walls[i] = random.nextInt(7);
+            text.append('H').append(random.nextInt(4)).append(walls[i]);
+        }
+        for (int i = 0; i < 8; i++) {
+            int house = random.nextInt(houses);
+            int loud = Math.min(9, walls[house] + random.nextInt(5));
+            text.append('S').append(house).append(random.nextInt(6)).append(loud);
+        }
+        text.append('R').append(1 + random.nextInt(2));
+        int more = random.nextInt(3);
+        for (int i = 0; i < more; i++) {
+            text.append('R').append(random.nextInt(2));
         }
         return text.toString();
     }

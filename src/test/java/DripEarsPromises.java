@@ -438,7 +438,8 @@ public final class DripEarsPromises {
         due("next hour", ears.first(1, 1), 1);
         ears.hour();
         due("now", ears.first(1, 1), 0);
-        due("in 30 hours", made("EH09S001S001S001S001S001S031R9R1R9R0").first(0, 3), DripEars.NONE);
+        // The last of 7 is said in the hours 6, 13, 20, 27, of which the last alone is dry.
+        due("in 28 hours", made("EH08S000S000S000S000S000S000S039R9R9R9R0").first(0, 3), 28);
         // The saying of place 7 of 8 is heard by a rain of 0 alone, in the 8th hour.
         due("in the eighth hour", made("EH08S000S000S000S000S000S000S000S039R9R9R9R0").first(0, 3), 8);
         due("no such thing", ears.first(0, 6), DripEars.UNKNOWN);
@@ -513,6 +514,18 @@ public final class DripEarsPromises {
         ears.plate(1);
         due("one knows both", ears.tells(3, 0), 1);
         due("which", ears.tells(3, 1), 4);
+        // Houses 0 and 1 know a thing each, house 2 both: it alone is fewer, though its bits are more.
+        DripEars alone = made("EH00H00H00S001S111S201S211R0R0R0");
+        hours(alone, 2);
+        alone.plate(1);
+        alone.change(1, 2);
+        alone.change(0, 1);
+        alone.plate(1);
+        due("0 knows", alone.house(0, 3), 2);
+        due("1 knows", alone.house(1, 3), 1);
+        due("2 knows", alone.house(2, 3), 3);
+        due("fewer", alone.tells(3, 0), 1);
+        due("which", alone.tells(3, 1), 4);
         due("things 64", ears.tells(64, 0), DripEars.OUTSIDE);
         due("things -1", ears.tells(-1, 0), DripEars.OUTSIDE);
         due("what 2", ears.tells(0, 2), DripEars.OUTSIDE);
@@ -675,6 +688,10 @@ public final class DripEarsPromises {
         DripEars one = made("EH00H00S001R0R0R1");
         due("as good", one.rests(0, 1, 0), 2);
         due("as good", one.rests(0, 1, 1), 0);
+        due("as good for the other too", one.rests(1, 0, 0), 2);
+        // The fifth hour, in which a second thing is heard, is one too late to count.
+        DripEars five = made("EH00H00S001S000S000S000S011R0R1");
+        due("four hours", five.rests(0, 1, 0), 2);
         two.lower(0);
         two.lower(0);
         two.lower(0);
@@ -768,6 +785,7 @@ public final class DripEarsPromises {
         due("plate of house 0", ears.years(1), 3);
         ears.seed(seedFor(15));
         due("plate of house 1", ears.years(1), 2);
+        yearsOfTwo();
         DripEars married = made("EH30H09S000");
         married.seed(seedFor(18));
         due("an hour", married.years(1), 1);
@@ -784,6 +802,49 @@ public final class DripEarsPromises {
             due("m " + extreme, married.years(extreme), DripEars.OUTSIDE);
         }
         due("the seed stays", married.seed(0), 0);
+    }
+
+    /** A seed by which two lots come one behind the other, by trial. */
+    private static long seedFor(int lot, int next) {
+        for (long v = 0; v < 1000000; v++) {
+            long x = v * 6364136223846793005L + 1442695040888963407L;
+            long y = x * 6364136223846793005L + 1442695040888963407L;
+            if ((x >>> 33) % 32 == lot && (y >>> 33) % 32 == next) {
+                return v;
+            }
+        }
+        return 0;
+    }
+
+    private static void yearsOfTwo() {
+        // Loud by 1 in house 2, wall 0: plain at it hears, until it is lowered.
+        DripEars plain = made("EH09H09H00S201R0");
+        plain.seed(seedFor(2, 31));
+        due("lowered, an hour", plain.years(2), 0);
+        plain.seed(seedFor(1, 31));
+        due("another lowered, an hour", plain.years(2), 1);
+        // Raised it is heard next door too, loud by 2 then 3.
+        DripEars loud = made("EH09H09H00S202R0");
+        loud.seed(seedFor(7, 31));
+        due("raised, an hour", loud.years(2), 2);
+        loud.seed(seedFor(6, 31));
+        due("another raised, an hour", loud.years(2), 1);
+        // Only the married one hears, and only at house 2.
+        DripEars married = made("EH09H39H09H09H09S200R1");
+        int[] changes = {0, 1, 0, 0};
+        for (int i = 0; i < 4; i++) {
+            married.seed(seedFor(10 + i, 18));
+            due("changed by " + (10 + i) + ", an hour", married.years(2), changes[i]);
+        }
+        DripEars fifth = made("EH09H09H09H39H00S401R0");
+        fifth.seed(seedFor(13, 18));
+        due("changed with the last", fifth.years(2), 1);
+        fifth.seed(seedFor(4, 18));
+        due("the last is lowered", fifth.years(2), 0);
+        fifth.seed(seedFor(9, 18));
+        due("the last is raised", fifth.years(2), 1);
+        fifth.seed(seedFor(18, 17));
+        due("the last is no one's neighbour", fifth.years(2), 2);
     }
 
     private static void keep() {
