@@ -505,9 +505,10 @@ public final class DripEars {
         }
         for (int each = 0; each < told.houses; each++) {
             int most = lowerings[each];
-            lowerings[each] = 0;
-            while (lowerings[each] < most && !isKeptFrom(house, thing, n)) {
-                lowerings[each]++;
+            boolean isEnough = false;
+            for (int times = 0; times <= most && !isEnough; times++) {
+                lowerings[each] = times;
+                isEnough = isKeptFrom(house, thing, n);
             }
         }
         return true;

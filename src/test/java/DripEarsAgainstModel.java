@@ -6,7 +6,7 @@ import java.util.regex.Pattern;
 
 /** Runs drawn by fixed seeds; each answer against a model that is slow and follows the document word by word. */
 public final class DripEarsAgainstModel {
-    private static final int RUNS = 400;
+    private static final int RUNS = 300;
     private static final int CALLS = 512;
 
     private final Random random;
@@ -647,25 +647,25 @@ public final class DripEarsAgainstModel {
             }
             int best = -9;
             int fewest = -9;
-            int end = (int) Math.pow(10, houses.size());
-            for (int figures = 0; figures < end; figures++) {
-                if (!Integer.toString(figures).matches("[0-3]*")) {
-                    continue;
-                }
-                int left = figures;
+            for (int way = 0; way < 1 << 2 * houses.size(); way++) {
+                int figures = 0;
                 int sum = 0;
                 boolean can = true;
-                World w = world.copy();
-                for (int i = houses.size() - 1; i >= 0; i--) {
-                    int times = left % 10;
-                    left /= 10;
+                int[] voices = world.voices.clone();
+                for (int i = 0; i < voices.length; i++) {
+                    int times = way >> 2 * (voices.length - 1 - i) & 3;
+                    figures = 10 * figures + times;
                     sum += times;
-                    w.voices[i] -= times;
-                    can &= w.voices[i] >= -3;
+                    voices[i] -= times;
+                    can &= voices[i] >= -3;
                 }
-                if (can && (fewest == -9 || sum < fewest) && !after(w, n).at(house).knows[thing]) {
-                    fewest = sum;
-                    best = figures;
+                if (can && (fewest == -9 || sum < fewest)) {
+                    World w = world.copy();
+                    w.voices = voices;
+                    if (!after(w, n).at(house).knows[thing]) {
+                        fewest = sum;
+                        best = figures;
+                    }
                 }
             }
             return what == 0 ? fewest : best;

@@ -689,6 +689,10 @@ public final class DripEarsPromises {
         due("as good", one.rests(0, 1, 0), 2);
         due("as good", one.rests(0, 1, 1), 0);
         due("as good for the other too", one.rests(1, 0, 0), 2);
+        // House 1 overhears house 0, whose lowering it would like and does not get.
+        DripEars overheard = made("EH00H00S003S013S023R0R1");
+        due("overheard", overheard.rests(1, 0, 0), 1);
+        due("overheard", overheard.rests(1, 0, 1), 0);
         // The fifth hour, in which a second thing is heard, is one too late to count.
         DripEars five = made("EH00H00S001S000S000S000S011R0R1");
         due("four hours", five.rests(0, 1, 0), 2);
@@ -829,6 +833,16 @@ public final class DripEarsPromises {
         due("raised, an hour", loud.years(2), 2);
         loud.seed(seedFor(6, 31));
         due("another raised, an hour", loud.years(2), 1);
+        // Loud by 0 the first is heard only raised, loud by 1 only not lowered.
+        DripEars soft = made("EH00S000R0");
+        soft.seed(seedFor(5, 31));
+        due("the first is raised", soft.years(2), 1);
+        DripEars loudEnough = made("EH00S001R0");
+        loudEnough.seed(seedFor(0, 31));
+        due("the first is lowered", loudEnough.years(2), 0);
+        DripEars wife = made("EH09H39S000R1");
+        wife.seed(seedFor(10, 31));
+        due("the first is changed", wife.years(2), 1);
         // Only the married one hears, and only at house 2.
         DripEars married = made("EH09H39H09H09H09S200R1");
         int[] changes = {0, 1, 0, 0};
