@@ -654,12 +654,13 @@ public final class DripEars {
             return number >= 0 && number < sayings;
         }
 
+        /** floorMod, so that even an hour that has wrapped around is no wrong index. */
         int sayingAt(int hour) {
-            return sayings > 0 ? hour % sayings : NONE;
+            return sayings > 0 ? Math.floorMod(hour, sayings) : NONE;
         }
 
         int rainAt(int hour) {
-            return rains > 0 ? rain[hour % rains] : 0;
+            return rains > 0 ? rain[Math.floorMod(hour, rains)] : 0;
         }
 
         void addHouse(int newKind, int newWall) {

@@ -7,7 +7,8 @@ import java.util.regex.Pattern;
 /** Runs drawn by fixed seeds; each answer against a model that is slow and follows the document word by word. */
 public final class DripEarsAgainstModel {
     private static final int RUNS = 300;
-    private static final int CALLS = 512;
+    /** Calls come in groups of up to 60; behind the 512th of an object the document promises nothing. */
+    private static final int CALLS = 450;
 
     private final Random random;
     private final int run;

@@ -95,6 +95,7 @@ public final class DripEarsAskBounds {
             first.hour();
         }
         Due.due("known for long", first.first(0, 3), 0);
+        // No FIRST is beyond 28: sayings and rains come round by then, and what was not heard is not heard later.
         Due.due("never", first.first(0, 0), Due.NONE);
         Due.due("not said", first.first(0, 5), Due.NONE);
         Due.due("on the common", common.first(1, 5), 3);
@@ -180,6 +181,11 @@ public final class DripEarsAskBounds {
             Due.due("one, which", ears.tells(1 << thing, 1), 1 << thing);
         }
         Due.due("the first and the last", ears.tells(17, 1), 17);
+        // House 2 alone knows both, though houses 0 and 1 together are less as bits.
+        DripEars alone = Due.made("EH39H39H39S000S110S200S210R1");
+        Due.hours(alone, 4);
+        Due.due("one of three, how many", alone.tells(3, 0), 1);
+        Due.due("one of three, which", alone.tells(3, 1), 4);
         Due.sentence("of like ones the least (bits): how many; which; NONE");
         ears.plate(3);
         Due.due("3 alone or 4 alone", ears.tells(8, 1), 8);
@@ -366,8 +372,11 @@ public final class DripEarsAskBounds {
         dueRests("EH00H00S001S011R0R0R1", 1, 10, 1);
         dueRests("EH00H00S101S111R0R0R1", 1, 1, 10);
         dueRests("EH00H00S001S011S122S131R0R0R1R0", 1, 11, 11);
+        // To lower hides two things from the other alone: it would help both if both did, and so nobody does.
+        dueRests("EH00H00S003S013S124S133R0R0R1R0", 1, 0, 0);
         // He at 0 is as well off by both; he at 1 hears it from both houses, so it helps him only if both lower.
         dueRests("EH20H00S003S101R0R0R1", 3, 0, 0);
+        // There is always one: by the other's lowering one's own never helps less, so NONE has no test.
         Due.sentence("RESTS of two HOUSES: each is LOWERED (1), if it can be, or is not (0)");
         DripEars lowered = Due.made("EH00H00S001S011R0R0R1");
         Due.raised(lowered, 0, 3);

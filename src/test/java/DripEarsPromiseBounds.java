@@ -191,6 +191,10 @@ public final class DripEarsPromiseBounds {
         Due.due("the third", third.hour(), 2);
         Due.due("the fourth", third.hour(), 0);
         Due.due("acts", third.count(10), 4);
+        // He hears it and tells it in the third dry hour, and is told nothing himself.
+        DripEars teller = Due.made("EH39H09S150S150S000");
+        Due.hours(teller, 2);
+        Due.due("who hears it and who is told", teller.hour(), 2);
     }
 
     private static void lower() {

@@ -278,9 +278,18 @@ public final class DripEarsTermBounds {
         Due.sentence("its length, if it is only not at its end; NONE: none");
         String lane = "EH19S059R9";
         int[] prefixes = {0, Due.NONE, 2, 3, Due.NONE, 5, 6, 7, Due.NONE, 9, Due.NONE};
+        DripEars growing = new DripEars();
         for (int length = 0; length <= lane.length(); length++) {
             Due.dueFault(lane.substring(0, length), prefixes[length]);
+            Due.due("fault of one text letter by letter, " + length, growing.fault(), prefixes[length]);
+            Due.writeOn(growing, lane.substring(length, Math.min(length + 1, lane.length())));
         }
+        growing.write('S');
+        Due.due("fault of a part begun", growing.fault(), 11);
+        growing.wipe();
+        Due.due("fault of nothing", growing.fault(), 0);
+        growing.write('E');
+        Due.due("fault of a text anew", growing.fault(), Due.NONE);
         Due.dueFault(LONGEST.substring(0, 55), 55);
     }
 
