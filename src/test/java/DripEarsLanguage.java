@@ -11,18 +11,13 @@ import java.util.TreeSet;
 import java.util.regex.Matcher;
 import java.util.regex.Pattern;
 
-/** The face of the document and those rules of LANGUAGE.md that reflection and a look at the source can tell. */
+/** The face is the document's, and the source keeps to those rules of LANGUAGE.md that a reader by rule can see. */
 public final class DripEarsLanguage {
-    private static final String[] FACE = {
-        "int write(int)", "int wipe()", "int fault()", "int lane()", "int house(int, int)", "int saying(int, int)",
-        "int hour()", "int lower(int)", "int raise(int)", "int change(int, int)", "int plate(int)", "int undo()",
-        "int later(int, int)", "int first(int, int)", "int keeps(int, int, int, int)", "int tells(int, int)",
-        "int judge(int, long)", "int hear(int, int, int)", "int unhear()", "int ears(int)", "int share(int, boolean)",
-        "int rests(int, int, int)", "int dries(int, int, int, int, boolean)", "long seed(long)", "int years(int)",
-        "int keep(int)", "int again(int)", "int count(int)"};
-    private static final String FORBIDDEN =
-        "\\b(throw|throws|try|catch|synchronized|assert|import|package|protected|native|volatile|transient|var|new Object)\\b"
-        + "|->|::|System\\.(?!arraycopy)|Exact\\(";
+    private static final Path SOURCE = Path.of("src/main/java/DripEars.java");
+    private static final Path DOCUMENT = Path.of("../shared/DOC.md");
+    private static final Pattern FACE = Pattern.compile("(?s)```java\n(.*?)```");
+    private static final Pattern METHOD = Pattern.compile("public (\\w+ \\w+)\\((.*?)\\);");
+    private static final Pattern CONSTANT = Pattern.compile("(\\w+) = (-\\d+)");
     private static int wrong = 0;
 
     private static void due(String what, Object got, Object want) {
@@ -32,23 +27,34 @@ public final class DripEarsLanguage {
         }
     }
 
-    public static void main(String[] args) throws IOException {
-        face();
+    public static void main(String[] args) throws IOException, IllegalAccessException {
+        Matcher face = FACE.matcher(Files.readString(DOCUMENT));
+        due("a face in the document", face.find(), true);
+        methods(face.group(1));
+        constants(face.group(1));
+        constructor();
         nested();
-        source();
+        for (String broken : SourceRules.brokenIn(SOURCE)) {
+            due("a rule", broken, "kept");
+        }
+        signs();
         System.out.println(wrong == 0 ? "the language is kept to" : wrong + " things are not as the language asks");
         if (wrong != 0) {
             System.exit(1);
         }
     }
 
-    private static void face() {
-        Class<?> type = DripEars.class;
-        due("modifiers", Modifier.toString(type.getModifiers()), "public final");
+    private static void methods(String face) {
+        Set<String> told = new TreeSet<>();
+        Matcher matcher = METHOD.matcher(face);
+        while (matcher.find()) {
+            told.add(matcher.group(1) + "(" + matcher.group(2).replaceAll("(\\w+) \\w+", "$1") + ")");
+        }
+        due("methods of the document", told.size(), 28);
         Set<String> methods = new TreeSet<>();
         Set<String> publicNames = new TreeSet<>();
         Set<String> privateNames = new TreeSet<>();
-        for (Method method : type.getDeclaredMethods()) {
+        for (Method method : DripEars.class.getDeclaredMethods()) {
             if (Modifier.isPrivate(method.getModifiers())) {
                 privateNames.add(method.getName());
             } else {
@@ -58,60 +64,46 @@ public final class DripEarsLanguage {
                 due(method.getName(), Modifier.toString(method.getModifiers()), "public");
             }
         }
-        due("methods", methods, new TreeSet<>(Arrays.asList(FACE)));
+        due("methods", methods, told);
         privateNames.retainAll(publicNames);
         due("private methods with public names", privateNames, new TreeSet<String>());
+    }
+
+    private static void constants(String face) throws IllegalAccessException {
+        Set<String> told = new TreeSet<>();
+        Matcher matcher = CONSTANT.matcher(face);
+        while (matcher.find()) {
+            told.add("public static final int " + matcher.group(1) + " = " + matcher.group(2));
+        }
+        due("constants of the document", told.size(), 5);
         Set<String> constants = new TreeSet<>();
-        for (Field field : type.getDeclaredFields()) {
+        for (Field field : DripEars.class.getDeclaredFields()) {
             if (!Modifier.isPrivate(field.getModifiers())) {
-                constants.add(Modifier.toString(field.getModifiers()) + " " + field.getType() + " " + field.getName());
+                String how = Modifier.toString(field.getModifiers()) + " " + field.getType() + " " + field.getName();
+                constants.add(how + " = " + field.get(null));
             }
         }
-        String how = "public static final int ";
-        due("constants", constants, new TreeSet<>(Set.of(how + "UNKNOWN", how + "OUTSIDE", how + "STATE", how + "FULL", how + "NONE")));
-        Constructor<?>[] constructors = type.getDeclaredConstructors();
+        due("constants", constants, told);
+    }
+
+    private static void constructor() {
+        due("modifiers", Modifier.toString(DripEars.class.getModifiers()), "public final");
+        Constructor<?>[] constructors = DripEars.class.getDeclaredConstructors();
         due("constructors", constructors.length, 1);
         due("parameters", constructors[0].getParameterCount(), 0);
         due("constructor", Modifier.toString(constructors[0].getModifiers()), "public");
     }
 
     private static void nested() {
-        Class<?>[] types = DripEars.class.getDeclaredClasses();
-        due("at most twelve classes", types.length <= 12, true);
-        for (Class<?> type : types) {
+        for (Class<?> type : DripEars.class.getDeclaredClasses()) {
             due(type + " static", Modifier.isStatic(type.getModifiers()), true);
             due(type + " public", Modifier.isPublic(type.getModifiers()), false);
-            fewFields(type);
-        }
-        fewFields(DripEars.class);
-    }
-
-    private static void fewFields(Class<?> type) {
-        int fields = 0;
-        for (Field field : type.getDeclaredFields()) {
-            boolean isStatic = Modifier.isStatic(field.getModifiers());
-            fields += isStatic ? 0 : 1;
-            due(type + " static and not final: " + field.getName(),
-                isStatic && !Modifier.isFinal(field.getModifiers()), false);
-        }
-        due(type + " at most twenty fields", fields <= 20, true);
-        for (Method method : type.getDeclaredMethods()) {
-            due(method + " at most seven parameters", method.getParameterCount() <= 7, true);
+            due(type + " protected", Modifier.isProtected(type.getModifiers()), false);
         }
     }
 
-    private static void source() throws IOException {
-        String source = Files.readString(Path.of("src/main/java/DripEars.java"));
-        String code = source.replaceAll("(?s)/\\*.*?\\*/", "").replaceAll("//[^\n]*", "");
-        Matcher matcher = Pattern.compile(FORBIDDEN).matcher(code);
-        while (matcher.find()) {
-            due("a word of the source", matcher.group(), "none such");
-        }
-        Matcher methods = Pattern.compile("(?ms)^((?:    ){1,2})[^ \n][^\n]*\\) \\{$.*?^\\1\\}$").matcher(code);
-        while (methods.find()) {
-            String method = methods.group();
-            due("at most sixty lines: " + method.substring(0, method.indexOf('\n')).trim(), method.split("\n").length <= 60, true);
-        }
+    private static void signs() throws IOException {
+        String source = Files.readString(SOURCE);
         for (int i = 0; i < source.length(); i++) {
             if (source.charAt(i) > 126) {
                 due("a sign of the source", (int) source.charAt(i), 126);
